@@ -1296,35 +1296,22 @@ public final class SchoolPlay {
             }
         }
 
+        /** Rows of one PART are enough: what a CHILD gets by a longer row, it gets by telling that alone, too. */
         private boolean gainsByAnother(int child, int rank) {
-            for (int a = 0; a < script.parts; a++) {
-                for (int b = NONE; b < script.parts; b++) {
-                    for (int c = NONE; c < script.parts; c++) {
-                        if (canBeTold(a, b, c) && rankBy(child, a, b, c) < rank) {
-                            return true;
-                        }
-                    }
+            for (int p = 0; p < script.parts; p++) {
+                tellOnly(child, p);
+                run();
+                if (script.rankOf(child, got[child]) < rank) {
+                    return true;
                 }
             }
             return false;
         }
 
-        /** A row of unlike PARTS, without a gap (NONE: no wish). */
-        private static boolean canBeTold(int a, int b, int c) {
-            boolean alike = a == b || a == c || b == c && b != NONE;
-            boolean gap = b == NONE && c != NONE;
-            return !alike && !gap;
-        }
-
-        private int rankBy(int child, int a, int b, int c) {
-            if (!script.hasChild(child)) {
-                return MOST_WISHES;
+        private void tellOnly(int child, int part) {
+            for (int i = 0; i < MOST_WISHES; i++) {
+                told[child * MOST_WISHES + i] = i == 0 ? part : NONE;
             }
-            told[child * MOST_WISHES] = a;
-            told[child * MOST_WISHES + 1] = b;
-            told[child * MOST_WISHES + 2] = c;
-            run();
-            return script.rankOf(child, got[child]);
         }
     }
 

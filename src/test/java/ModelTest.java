@@ -42,6 +42,13 @@ public final class ModelTest {
     /** A book of sizes up to the document's bounds; now and then with something odd in it. */
     static String book(Random r) {
         int parts = r.nextInt(7), children = r.nextInt(7), scenes = r.nextInt(8), wishes = r.nextInt(8);
+        if (r.nextInt(4) == 0) {
+            // few parts, wished by many: else hardly anybody gains
+            parts = 2 + r.nextInt(3);
+            children = 3 + r.nextInt(4);
+            scenes = r.nextInt(3);
+            wishes = 10;
+        }
         boolean flat = r.nextInt(3) == 0;
         StringBuilder text = new StringBuilder();
         for (int i = 0; i < parts; i++)
@@ -166,7 +173,7 @@ public final class ModelTest {
     }
 
     public static void main(String[] args) {
-        int runs = args.length > 0 ? Integer.parseInt(args[0]) : 300;
+        int runs = args.length > 0 ? Integer.parseInt(args[0]) : 1500;
         Due all = new Due();
         for (int run = 0; run < runs; run++) {
             ModelTest test = new ModelTest(run);

@@ -109,6 +109,13 @@ public final class PromiseTest {
         reads("5", -10);
         reads("  parts 1 2 3;", -12);
         reads("par", -10);
+        reads("mart 1 2 3;", -10);
+        reads("partz 1 2 3;", -10);
+        reads("parta 1 2 3;", -10);
+        reads("part`1 2 3;", -14);
+        reads("part{1 2 3;", -14);
+        reads("part 1 2/3;", -18);
+        reads("part 1 2:3;", -18);
         reads("Part 1 2 3;", -10);
         reads("part\t1 2 3;", -14);
         reads("part 7 0 0;", -15);
@@ -532,6 +539,9 @@ public final class PromiseTest {
         hours.cast(0, 0);
         DUE.is("21 fewest hours: 4, 2", hours.next(), 2);
         DUE.is("21 nothing changes", hours.behind(0, -1), -1);
+        SchoolPlay slow = of("part 0 10 0;child 9 0 0 0 5;child 1 0 0 0 10;child 2 0 0 0 10;");
+        slow.cast(0, 0);
+        DUE.is("21 fewest hours: 10, 5", slow.next(), 2);
         SchoolPlay up = of("part 0 9 0;child 9 0 0 0 5;child 4 0 0 0 10;child 3 0 0 0 10;");
         up.cast(0, 0);
         DUE.is("21 rounded up they are alike: 3, 3", up.next(), 1);
@@ -610,6 +620,8 @@ public final class PromiseTest {
         SchoolPlay nothing = of("part 0 0 0;part 0 0 0;child 1 0 0 0 0;child 1 0 0 0 0;child 1 0 0 0 0;"
                 + "wish 0 0;wish 1 0 1;wish 2 1;");
         DUE.is("24 nothing is behind all", nothing.gains(1), 1);
+        DUE.is("24 part 0 told first", of("part 0 0 0;part 0 0 0;child 1 0 0 0 0;child 1 0 0 0 0;child 1 0 0 0 0;"
+                + "wish 0 1;wish 1 1 0;wish 2 0;").gains(1), 1);
         DUE.is("24 what is not wished is no gain", of("part 0 0 0;part 0 0 0;child 1 0 0 0 0;child 1 0 0 0 0;"
                 + "wish 0 0;wish 1 0;").gains(1), -1);
     }
@@ -727,6 +739,8 @@ public final class PromiseTest {
         Texts.read(play, "part 1 1 1;part 1 1 1;");
         play.put(0, 0);
         play.put(1, 0);
+        play.forget();
+        play.year(0);
         play.forget();
         play.image(0);
         DUE.is("32 on from 1", play.from(1), 1);
