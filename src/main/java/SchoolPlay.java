@@ -1318,6 +1318,8 @@ public final class SchoolPlay {
     /** THE FRACTION, in lowest terms, not below 0; each side of it has two limbs at most. */
     private static final class Fraction {
         private static final int LIMB_BITS = 30;
+        /** Those of a long, far above what THE FRACTION needs. */
+        private static final int MOST_LIMBS = 3;
 
         long above = 0;
         long below = 1;
@@ -1332,14 +1334,14 @@ public final class SchoolPlay {
 
         int limbs(int which) {
             int number = 0;
-            for (long rest = side(which); rest > 0; rest >>>= LIMB_BITS) {
+            for (int i = 0; i < MOST_LIMBS && side(which) >>> (LIMB_BITS * i) != 0; i++) {
                 number++;
             }
             return number;
         }
 
         int limbAt(int which, int i) {
-            if (i < 0 || i > 2) {
+            if (i < 0 || i >= MOST_LIMBS) {
                 return 0;
             }
             return (int) (side(which) >>> (LIMB_BITS * i)) & (1 << LIMB_BITS) - 1;

@@ -13,26 +13,10 @@ public final class PromiseTest {
         return play;
     }
 
-    private static long mixed(long... row) {
-        long h = 607;
-        for (long v : row) {
-            h = 31 * h + v;
-        }
-        return h;
-    }
-
     private static void fraction(String what, SchoolPlay play, long above, long below) {
         DUE.is(what + ": sign", play.sign(0), above > 0 ? 1 : 0);
-        DUE.is(what + ": above", side(play, 0), above);
-        DUE.is(what + ": below", side(play, 1), below);
-    }
-
-    private static long side(SchoolPlay play, int which) {
-        long sum = 0;
-        for (int i = play.sign(1 + which) - 1; i >= 0; i--) {
-            sum = sum * 1073741824L + play.limb(which, i);
-        }
-        return sum;
+        DUE.is(what + ": above", Edge.sideOf(play, 0), above);
+        DUE.is(what + ": below", Edge.sideOf(play, 1), below);
     }
 
     private static void refusals(String what, SchoolPlay play, int bad, int no, int full) {
@@ -43,7 +27,7 @@ public final class PromiseTest {
 
     private static void newObject() {
         SchoolPlay play = new SchoolPlay();
-        DUE.is("1 digest of a new one", play.digest(), mixed(0, 0, 0, 0, 0, 0, 0, 0, 0, 1, 1));
+        DUE.is("1 digest of a new one", play.digest(), Edge.mixed(0, 0, 0, 0, 0, 0, 0, 0, 0, 1, 1));
         for (int what = 0; what < 5; what++) {
             DUE.is("1 count " + what, play.count(what), 0);
         }
@@ -62,9 +46,9 @@ public final class PromiseTest {
         DUE.is("2 n 9", play.type(97, 9), -2);
         DUE.is("2 n below 0", play.type(97, LOW), -2);
         DUE.is("2 two bytes", play.type(0x1122334455667F80L, 2), 2);
-        DUE.is("2 the highest first", play.digest(), mixed(0, 0, 0, 0, 2, 0, 0, 0x7F, 0x80, 0, 0, 1, 1));
+        DUE.is("2 the highest first", play.digest(), Edge.mixed(0, 0, 0, 0, 2, 0, 0, 0x7F, 0x80, 0, 0, 1, 1));
         DUE.is("2 eight bytes", play.type(-2L, 8), 10);
-        DUE.is("2 bytes up to 255", play.digest(), mixed(0, 0, 0, 0, 10, 0, 0, 0x7F, 0x80,
+        DUE.is("2 bytes up to 255", play.digest(), Edge.mixed(0, 0, 0, 0, 10, 0, 0, 0x7F, 0x80,
                 255, 255, 255, 255, 255, 255, 255, 254, 0, 0, 1, 1));
         for (int i = 1; i <= 28; i++) {
             DUE.is("2 more", play.type(32, 8), 10 + 8 * i);
@@ -183,7 +167,7 @@ public final class PromiseTest {
         DUE.is("4 with a fault all stays", play.digest(), before);
         refusals("4 a fault is no refusal", play, 0, 0, 0);
         Texts.read(play, "part 1 2 3;child 1 2 3 4 5;");
-        DUE.is("4 a new play", play.digest(), mixed(1, 1, 0, 1, 27, 1, 2, 3, -1, -1, 0, 1, 2, 3, 4, 5, -1, -1, -1, 0, 2, 1,
+        DUE.is("4 a new play", play.digest(), Edge.mixed(1, 1, 0, 1, 27, 1, 2, 3, -1, -1, 0, 1, 2, 3, 4, 5, -1, -1, -1, 0, 2, 1,
                 'p', 'a', 'r', 't', ' ', '1', ' ', '2', ' ', '3', ';', 'c', 'h', 'i', 'l', 'd', ' ',
                 '1', ' ', '2', ' ', '3', ' ', '4', ' ', '5', ';', 1, 1, 1, 1, 16, 17));
         SchoolPlay again = of("part 0 9 0;child 9 0 0 0 0;scene 1 0;");
@@ -211,7 +195,7 @@ public final class PromiseTest {
         DUE.is("5 another number", play.put(2, 0), -2);
         DUE.is("5 another number", play.put(-1, 0), -2);
         refusals("5", play, 5, 0, 0);
-        DUE.is("5 CHANGE, EACH", play.digest(), mixed(0, 0, 0, 0, 0, 1, 0, 0, 0, 1, 1));
+        DUE.is("5 CHANGE, EACH", play.digest(), Edge.mixed(0, 0, 0, 0, 0, 1, 0, 0, 0, 1, 1));
     }
 
     private static void fit() {
@@ -666,7 +650,7 @@ public final class PromiseTest {
         DUE.is("26 BAD ahead of FULL", play.year(2), -2);
         DUE.is("26 -1", play.year(-1), -2);
         refusals("26", play, 2, 0, 1);
-        DUE.is("26 as they come", play.digest(), mixed(0, 0, 0, 10, 0, 0, 0, 1, 0, 1, 0, 1, 0, 1, 0, 1, 0, 0, 0, 1, 1));
+        DUE.is("26 as they come", play.digest(), Edge.mixed(0, 0, 0, 10, 0, 0, 0, 1, 0, 1, 0, 1, 0, 1, 0, 1, 0, 0, 0, 1, 1));
         DUE.is("27 how many there were", play.forget(), 10);
         DUE.is("27 none", play.forget(), 0);
         DUE.is("27 none", play.count(3), 0);
@@ -820,7 +804,7 @@ public final class PromiseTest {
         play.year(0);
         play.tried(7, 10, 9, 9, 9);
         long below = 7000000000L + 13L * 387420489L;
-        DUE.is("35 digest", play.digest(), mixed(2, 2, 2, 2, 2,
+        DUE.is("35 digest", play.digest(), Edge.mixed(2, 2, 2, 2, 2,
                 1, 9, 2, 1, -1, 0, 6, 0, 9, 0, 1, 90,
                 9, 1, 2, 3, 4, -1, -1, -1, 0, 5, 6, 7, 8, 19, 1, 0, -1, 1,
                 20, 2, 3, 3, 2, 1, 59, 255, 1, 0, 1, 2, 2,
