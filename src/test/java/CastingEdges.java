@@ -242,6 +242,21 @@ final class CastingEdges {
         edge.is("PART 1", play.best(1), 0);
     }
 
+    static void p08_ofSixPartsTheFirstForAnother(Edge edge) {
+        SchoolPlay play = edge.of(PART + "part 0 0 9;".repeat(5) + "child 1 0 9 0 0;child 1 0 0 0 0;");
+        edge.is("six times 10", play.best(-1), 60);
+        edge.is("PART 0", play.best(0), 1);
+        edge.is("PART 5", play.best(5), 0);
+    }
+
+    static void p08_behindALargerPlay(Edge edge) {
+        SchoolPlay play = edge.of(PART.repeat(6) + CHILD.repeat(6) + "scene 1 0 1 2;");
+        edge.is("of the larger one", play.hot(0, -1), 6);
+        Texts.read(play, "part 0 0 0;part 0 0 0;child 1 0 9 0 0;child 1 0 0 0 0;");
+        edge.is("10 and 10", play.best(-1), 20);
+        edge.is("PART 1", play.best(1), 1);
+    }
+
     static void p08_changeLeavesNone(Edge edge) {
         SchoolPlay play = edge.of(PART + PART + CHILD + "scene 1 0;scene 1 1;");
         edge.is("CHANGE 0", play.best(-1), 20);
@@ -309,6 +324,13 @@ final class CastingEdges {
 
     static void p09_theFirstTwoAreBetterForTwo(Edge edge) {
         edge.is(edge.of(PART.repeat(4) + "scene 1 0 2;scene 1 2 3;scene 1 1 3;").fewest(), 2);
+    }
+
+    static void p09_behindALargerPlay(Edge edge) {
+        SchoolPlay play = edge.of(PART.repeat(6) + "scene 1 0 1 2 3 4 5;");
+        edge.is("six", play.fewest(), 6);
+        Texts.read(play, PART + PART);
+        edge.is("two that do not clash", play.fewest(), 1);
     }
 
     static void p09_eachDoesNotMatter(Edge edge) {

@@ -269,6 +269,13 @@ final class IllEdges {
         edge.is("none", play.hot(1, -1), 0);
     }
 
+    static void p22_sixPartsAndSixChildren(Edge edge) {
+        SchoolPlay play = castInOrder(edge.of(PART.repeat(6) + CHILD.repeat(6)), 0, 1, 2, 3, 4, 5);
+        edge.is("one", play.hot(5, -1), 1);
+        edge.is("the first row", play.hot(5, 5), 0);
+        edge.is("who stays", play.hot(5, 4), 4);
+    }
+
     static void p22_aPartThatNobodyHas(Edge edge) {
         SchoolPlay play = edge.of(PART + CHILD + CHILD);
         edge.is("how many", play.hot(0, -1), 1);

@@ -171,6 +171,18 @@ final class RehearsalEdges {
         edge.onlyAnswers(play, 1, play::night);
     }
 
+    static void p13_sixParts(Edge edge) {
+        SchoolPlay play = edge.of(TEN.repeat(6) + "child 1 9 0 0 0;scene 1 0 1 2 3 4 5;");
+        for (int p = 0; p < 6; p++) {
+            play.cast(p, 0);
+        }
+        play.rehearse(0, 20);
+        play.night();
+        for (int p = 0; p < 6; p++) {
+            edge.is("20 less 9, PART " + p, play.known(p), 11);
+        }
+    }
+
     static void p13_nobodySitsByNight(Edge edge) {
         SchoolPlay play = one(edge, 9, 1, 9);
         play.night();
@@ -452,6 +464,27 @@ final class RehearsalEdges {
         edge.is("CHILD 1 has no PART: nobody sits", play.plan(1, 1, 0), 0);
         play.cast(1, 1);
         edge.is("CHILD 1 would sit", play.plan(1, 1, 0), 1);
+    }
+
+    static void p18_sixPartsAndSevenScenes(Edge edge) {
+        SchoolPlay play = edge.of(TEN.repeat(6) + CHILD + "scene 1 0;".repeat(6) + "scene 1 0 1 2 3 4 5;");
+        for (int p = 0; p < 6; p++) {
+            play.cast(p, 0);
+        }
+        edge.is("least KNOWN", play.plan(4, 1, -1), 4);
+        edge.is("day 0", play.plan(4, 1, 0), 6);
+        edge.is("day 3", play.plan(4, 1, 3), 6);
+    }
+
+    static void p18_nothingIsKnownByAnyRow(Edge edge) {
+        SchoolPlay play = edge.of(TEN + TEN + CHILD + "scene 1 0;scene 1 1;");
+        play.cast(0, 0);
+        play.cast(1, 0);
+        play.rehearse(0, 10);
+        edge.is("the second scene", play.plan(1, 5, 0), 1);
+        play.cast(1, -1);
+        edge.is("nothing, by any", play.plan(1, 5, -1), 0);
+        edge.is("nobody sits by the first", play.plan(1, 5, 0), 0);
     }
 
     static void p18_nothingChanges(Edge edge) {
